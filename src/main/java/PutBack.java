@@ -23,7 +23,7 @@ public final class PutBack {
   private static final int LAST_SEED = 999999;
   /** So far that no noise reaches, and no sum of two overflows: rooms that no stairs join. */
   private static final int APART = 100;
-  /** Above this, less the fault's place, what a text's refusal answers. */
+  /** A text's fault answers this less its place; a stair's refusal just this. */
   private static final int FAULT_BASE = -10;
 
   private final Night night;
@@ -561,7 +561,7 @@ public final class PutBack {
       things = other.things;
     }
 
-    /** The callers below have looked at their numbers, and that there is a place. */
+    /** Who calls this, or one of the three below, has looked at the numbers and for a place. */
     int addStair(int a, int b, int creak) {
       int had = creaks[pair(a, b)];
       creaks[pair(a, b)] = creak;
@@ -624,7 +624,7 @@ public final class PutBack {
       }
     }
 
-    /** The least noise made in a room that wakes a sleeper: all kinds' least is 1, so 0 never does. */
+    /** The least noise in a room that wakes a sleeper; 1 at least by all kinds, so 0 never does. */
     int leastNoise(int s, int room, int minute) {
       Plain kind = kinds[kindOf[s]];
       int heard = kind.wakingNoise(earsOf[s], minute, roomOf[s] == room);
@@ -766,7 +766,7 @@ public final class PutBack {
       return heards;
     }
 
-    /** Sleepers (bits) of whom it is told by that sign that they heard a minute's step, or did not. */
+    /** Sleepers (bits) of whom it is told that they heard a minute's step (1), or did not (0). */
     int toldOf(int m, int sign) {
       int bits = 0;
       for (int i = 0; i < heards; i++) {
@@ -822,7 +822,7 @@ public final class PutBack {
     }
   }
 
-  /** Reads a text, token by token, into a house; where it stops short, the fault is that token's start. */
+  /** Reads a text, token by token, into a house; where it stops short, that token is the fault. */
   private static final class Reader {
     private static final int END = 0, WORD = 1, NUMBER = 2, STOP = 3, WRONG = 4;
     private static final int MOST_FIGURES = 2;
@@ -978,7 +978,7 @@ public final class PutBack {
   private static final class Finder {
     private static final int DOOR = 0;
 
-    /** By room: it and those to which one may go from it in the minute, or by the creaks, looked at. */
+    /** By room: it and those to which one may go from it, as it was last looked at. */
     final int[] quiet = new int[ROOMS];
     /** By the first pupil's room: the rooms in which the second may be. */
     final int[] pairs = new int[ROOMS];
@@ -1120,14 +1120,9 @@ public final class PutBack {
       int bits = 0;
       for (int other = 0; other < ROOMS; other++) {
         if (bit(pairs[at], other) == 1) {
-          int goals = quiet[other];
-          if (at != to && other == to) {
-            goals &= ~(1 << at);
-          }
-          if (at != to && other == at) {
-            goals &= ~(1 << to);
-          }
-          bits |= goals;
+          // One stair by both at once is one against the other; side by side they would meet behind it.
+          boolean against = at != to && other == to;
+          bits |= against ? quiet[other] & ~(1 << at) : quiet[other];
         }
       }
       return bits;
