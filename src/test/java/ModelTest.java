@@ -786,46 +786,6 @@ public final class ModelTest {
     return least + random.nextInt(most - least + 1);
   }
 
-  private static long call(PutBack x, int c, int[] n) {
-    switch (c) {
-      case 1: return x.house();
-      case 2: return x.stair(n[0], n[1], n[2]);
-      case 3: return x.sleeper(n[0], n[1], n[2]);
-      case 4: return x.thing(n[0]);
-      case 5: return x.owner(n[0], n[1]);
-      case 6: return x.type(n[0]);
-      case 7: return x.clear();
-      case 8: return x.read();
-      case 9: return x.step(n[0], n[1]);
-      case 10: return x.waits(n[0]);
-      case 11: return x.undo();
-      case 12: return x.of(n[0], n[1]);
-      case 13: return x.where(n[0]);
-      case 14: return x.far(n[0], n[1]);
-      case 15: return x.wakes(n[0], n[1], n[2]);
-      case 16: return x.loud(n[0], n[1]);
-      case 17: return x.way(n[0], n[1], n[2], n[3]);
-      case 18: return x.softest(n[0], n[1]);
-      case 19: return x.schedule(n[0], n[1]);
-      case 20: return x.owed(n[0]);
-      case 21: return x.took(n[0]);
-      case 22: return x.canNot();
-      case 23: return x.heard(n[0], n[1], n[2]);
-      case 24: return x.forget();
-      case 25: return x.may(n[0]);
-      case 26: return x.ways();
-      case 27: return x.listen(n[0]);
-      case 28: return x.clocks(n[0], n[1], n[2]);
-      case 29: return x.nights(n[0], n[1]);
-      case 30: return x.part(n[0]);
-      case 31: return x.image(n[0]);
-      case 32: return x.from(n[0]);
-      case 33: return x.status(n[0]);
-      case 34: return x.count(n[0]);
-      default: return x.digest();
-    }
-  }
-
   private static long call(Model x, int c, int[] n) {
     switch (c) {
       case 1: return x.house();
@@ -883,7 +843,7 @@ public final class ModelTest {
   };
 
   private static boolean both(int run, PutBack x, Model model, int c, int[] n) {
-    long got = call(x, c, n);
+    long got = Calls.call(x, NAMES[c], n);
     long want = call(model, c, n);
     answered[c]++;
     if (want <= -2 && want >= -4) {

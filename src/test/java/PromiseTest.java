@@ -10,17 +10,9 @@ public final class PromiseTest {
     }
   }
 
-  private static int read(PutBack x, String text) {
-    x.clear();
-    for (int i = 0; i < text.length(); i++) {
-      x.type(text.charAt(i));
-    }
-    return x.read();
-  }
-
   private static PutBack told(String text) {
     PutBack x = new PutBack();
-    int answer = read(x, text);
+    int answer = Houses.read(x, text);
     if (answer < 0) {
       wrong++;
       System.out.println("promise " + promise + ": the text " + text + " answered " + answer);
@@ -197,7 +189,7 @@ public final class PromiseTest {
     due("two", x.clear(), 2);
     due("then none", x.clear(), 0);
     due("many", x.count(6), 0);
-    due("nothing is left of it", read(x, "house;"), 1);
+    due("nothing is left of it", Houses.read(x, "house;"), 1);
   }
 
   private static void p9Read() {
@@ -223,7 +215,7 @@ public final class PromiseTest {
       PutBack x = new PutBack();
       x.stair(6, 7, 1);
       x.thing(2);
-      due("'" + row[0] + "'", read(x, (String) row[0]), (Integer) row[1]);
+      due("'" + row[0] + "'", Houses.read(x, (String) row[0]), (Integer) row[1]);
       boolean was = x.far(6, 7) == 1 && x.count(1) == 1;
       due("all stays just by a fault in '" + row[0] + "'", was ? 1 : 0, (Integer) row[1] < 0 ? 1 : 0);
       due("no refusal", refused(x), 0);
@@ -238,7 +230,7 @@ public final class PromiseTest {
     x.image(1);
     x.clocks(3, 3, 0);
     long below = x.part(1);
-    due("items", read(x, "house;stair 1 2 3;stair 2 1 4;sleeper 3 4 5;thing 6 2 1;thing 7;"), 6);
+    due("items", Houses.read(x, "house;stair 1 2 3;stair 2 1 4;sleeper 3 4 5;thing 6 2 1;thing 7;"), 6);
     due("sleepers", x.count(0), 1);
     due("things", x.count(1), 2);
     due("minute", x.count(2), 0);
