@@ -1212,11 +1212,11 @@ public final class PutBack {
 
     int bestListener(House dwelling, int m) {
       int best = NONE;
-      long least = Long.MAX_VALUE;
+      long least = 0;
       for (int s = 0; s < dwelling.sleepers && total() > 0; s++) {
         long heard = rowsHeardBy(dwelling, s, m);
         long greater = Math.max(heard, total() - heard);
-        if (greater < least) {
+        if (best == NONE || greater < least) {
           least = greater;
           best = s;
         }

@@ -26,6 +26,15 @@ final class Houses {
     return x;
   }
 
+  /** All rooms in a row from the door on, each stair with the same creak. */
+  static PutBack row(int creak) {
+    PutBack x = new PutBack();
+    for (int a = 0; a < 7; a++) {
+      x.stair(a, a + 1, creak);
+    }
+    return x;
+  }
+
   /** Something of everything: image 0 is kept, image 1 is not; calls were refused by each reason. */
   static PutBack busy() {
     PutBack x = told("house;stair 0 1 9;stair 1 2 1;stair 0 7 0;sleeper 0 1 0;sleeper 5 6 3;thing 2 0 1;thing 1;");

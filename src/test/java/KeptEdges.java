@@ -91,10 +91,16 @@ final class KeptEdges extends Edges {
     same.image(1);
     x.house();
     x.stair(3, 4, 5);
-    x.sleeper(1, 1, 1);
+    x.stair(0, 5, 9);
+    x.sleeper(1, 0, 1);
     x.thing(3);
-    x.heard(0, 0, 0);
-    x.waits(9);
+    for (int i = 0; i < 6; i++) {
+      x.heard(0, 11 - i, 1);
+    }
+    for (int i = 0; i < 9; i++) {
+      x.step(i % 3, x.where(i % 3) == 0 ? 5 : 0);
+      x.waits(2 + i);
+    }
     x.from(1);
     holds("all of it, what may be undone, the other image:", Houses.picture(x).equals(Houses.picture(same)));
     for (int i = 0; i < 2; i++) {

@@ -29,7 +29,7 @@ public final class LanguageTest {
     "\\bthrows?\\b", "\\btry\\b", "\\bcatch\\b", "\\bfinally\\b", "\\bsynchronized\\b", "\\bassert\\b", "\\bimport\\b",
     "\\bpackage\\b", "->", "::", "@", "\\bstatic\\s*\\{", "Exact\\b", "\\bObject\\b", "\\bgetClass\\b", "\\bhashCode\\b",
     "\\btoString\\b", "\\bThread\\b", "\\bRandom\\b", "\\bvar\\b", "\\bdouble\\b", "\\bfloat\\b", "\\bnative\\b", "\\bvolatile\\b",
-    "\\bSystem\\.(?!arraycopy\\b)", "\\bMath\\.(?!min\\b|max\\b)", "\\bInteger\\.(?!bitCount\\b)", "\\bLong\\.(?!MAX_VALUE\\b)",
+    "\\bSystem\\.(?!arraycopy\\b)", "\\bMath\\.(?!min\\b|max\\b)", "\\bInteger\\.(?!bitCount\\b)", "\\bLong\\.",
     "\\bwhile\\s*\\(\\s*true", "\\bfor\\s*\\(\\s*;\\s*;"
   };
   private static int wrong = 0;

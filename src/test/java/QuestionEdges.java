@@ -29,11 +29,11 @@ final class QuestionEdges extends Edges {
     says("(Nothing is changed by these.)");
     PutBack x = Houses.busy();
     PutBack same = Houses.busy();
-    for (String name : Calls.names()) {
-      boolean asks = "far wakes loud way softest schedule owed took may listen nights where of part count".contains(name);
-      if (asks) {
-        Calls.call(x, name, Calls.good(name));
-      }
+    String[] asking = {
+      "of", "where", "far", "wakes", "loud", "way", "softest", "schedule", "owed", "took", "may", "listen", "nights", "part", "count"
+    };
+    for (String name : asking) {
+      Calls.call(x, name, Calls.good(name));
     }
     x.wakes(30, 1, 0);
     x.wakes(30, 6, 0);
@@ -95,7 +95,7 @@ final class QuestionEdges extends Edges {
       due("the same", fiveLight().way(room, room, 0, 0), 0);
       due("the same", fiveLight().way(room, room, 59, 0), 0);
     }
-    PutBack row = Houses.told("house;stair 0 1 0;stair 1 2 0;stair 2 3 0;stair 3 4 0;stair 4 5 0;stair 5 6 0;stair 6 7 0;");
+    PutBack row = Houses.row(0);
     for (int to = 1; to < 8; to++) {
       due("from the first minute", row.way(0, to, 0, 0), to);
       due("there in minute 59", row.way(0, to, 59 - to, 0), to);
@@ -137,6 +137,17 @@ final class QuestionEdges extends Edges {
     due("waiting", owl.way(5, 6, 0, 1), 5);
     due("waiting", owl.way(5, 6, 29, 1), 5);
     due("going", owl.way(5, 6, 30, 1), 6);
+    PutBack door = Houses.told("house;stair 3 0 0;stair 3 5 0;stair 5 6 0;stair 0 1 0;stair 1 2 0;stair 1 7 4;sleeper 2 1 0;");
+    due("the door is a room, too", door.way(3, 2, 0, 1), 0);
+    due("but none on each way", door.way(3, 6, 0, 1), 5);
+    due("waiting at the door", Houses.told("house;stair 0 1 1;sleeper 4 1 0;").way(0, 1, 29, 1), 0);
+    // From minute 9 on: a step, then minute 10 is loud for each step into room 1.
+    due("quiet in minute 9, not in 10", door.way(7, 1, 9, 1), 1);
+    due("waiting in minute 10", door.way(7, 1, 10, 1), 7);
+    PutBack tenth = Houses.told("house;stair 0 1 4;stair 1 2 4;sleeper 2 1 0;");
+    due("by minute 9, then 11", tenth.way(0, 2, 9, 0), 3);
+    due("in minute 9 at once", tenth.way(0, 2, 9, 1), 1);
+    due("in minute 10 not yet", tenth.way(0, 2, 10, 1), 0);
     asked(PutBack::new, -1, "way", 0, 1, 0, 0);
     asked(PutBack::new, -1, "way", 0, 1, 0, 1);
     asked(() -> Houses.told("house;stair 0 1 0;"), -1, "way", 0, 1, 59, 1);
@@ -154,7 +165,10 @@ final class QuestionEdges extends Edges {
     due("9, and it is heard", x.softest(0, 1), 9);
     due("0", x.softest(3, 2), 0);
     due("none", x.softest(1, 2), -1);
-    PutBack row = Houses.told("house;stair 0 1 8;stair 1 2 1;stair 2 3 2;stair 3 4 1;stair 4 5 1;stair 5 6 1;stair 6 7 1;stair 0 7 9;");
+    PutBack row = Houses.row(1);
+    row.stair(0, 1, 8);
+    row.stair(2, 3, 2);
+    row.stair(0, 7, 9);
     due("by seven stairs, the worst of them", row.softest(0, 7), 8);
     due("by six", row.softest(1, 7), 2);
     row.stair(0, 7, 8);
@@ -171,7 +185,7 @@ final class QuestionEdges extends Edges {
     asked(PutBack::new, 0, "schedule", 0, 0);
     asked(PutBack::new, -1, "schedule", 0, 7);
     asked(PutBack::new, -1, "schedule", 7, 0);
-    PutBack row = Houses.told("house;stair 0 1 0;stair 1 2 0;stair 2 3 0;stair 3 4 0;stair 4 5 0;stair 5 6 0;stair 6 7 0;");
+    PutBack row = Houses.row(0);
     for (int u = 0; u < 8; u++) {
       for (int v = 0; v < 8; v++) {
         due("in a row, " + u + " and " + v, row.schedule(u, v), u == v && u > 0 ? -1 : Math.max(u, v));
@@ -190,7 +204,9 @@ final class QuestionEdges extends Edges {
     awake.step(0, 1);
     due("it is awake", awake.schedule(0, 1), -1);
     // By two that snore each step is quiet in odd minutes alone; seven steps end in minute 13, the latest there is.
-    PutBack odd = Houses.told("house;stair 0 1 9;stair 1 2 9;stair 2 3 9;stair 3 4 9;stair 4 5 9;stair 5 6 9;stair 6 7 9;sleeper 5 3 0;sleeper 5 6 0;");
+    PutBack odd = Houses.row(9);
+    odd.sleeper(5, 3, 0);
+    odd.sleeper(5, 6, 0);
     due("seven odd minutes", odd.schedule(7, 6), 14);
     due("seven odd minutes", odd.schedule(5, 7), 14);
     PutBack owl = Houses.told("house;stair 0 1 1;stair 0 2 0;sleeper 4 1 0;");
@@ -296,6 +312,19 @@ final class QuestionEdges extends Edges {
     PutBack y = Houses.told("house;stair 0 1 1;sleeper 3 1 9;");
     y.heard(0, 0, 0);
     due("waiting is not heard", y.ways(), 2048);
+    PutBack two = Houses.told("house;stair 0 1 1;stair 0 2 3;sleeper 3 1 9;sleeper 3 2 9;sleeper 1 0 0;");
+    two.heard(1, 0, 1);
+    two.heard(2, 0, 1);
+    two.heard(0, 0, 0);
+    due("all of one minute: in room 2 then", two.may(1), 4);
+    two.forget();
+    two.heard(0, 0, 1);
+    two.heard(2, 0, 1);
+    due("all of one minute can not be", two.ways(), 0);
+    two.forget();
+    two.heard(0, 0, 0);
+    two.heard(1, 0, 0);
+    due("none of one minute: waiting", two.may(1), 1);
     PutBack z = Houses.told("house;sleeper 3 0 9;");
     z.heard(0, 3, 1);
     due("waiting makes no noise", z.ways(), 0);
@@ -305,7 +334,7 @@ final class QuestionEdges extends Edges {
     says("MAY: ROOMS (bits) in which one is in MINUTE m (0 .. 12) by some of them; how many WAYS.");
     endsOf("may");
     due("the door alone", new PutBack().may(12), 1);
-    PutBack row = Houses.told("house;stair 0 1 0;stair 1 2 0;stair 2 3 0;stair 3 4 0;stair 4 5 0;stair 5 6 0;stair 6 7 0;");
+    PutBack row = Houses.row(0);
     for (int m = 0; m < 13; m++) {
       due("in minute " + m, row.may(m), (1 << Math.min(m + 1, 8)) - 1);
     }
@@ -340,6 +369,13 @@ final class QuestionEdges extends Edges {
     last.heard(0, 0, 1);
     due("then it is in room 1", last.listen(1), 1);
     due("later they are alike again", last.listen(11), 0);
+    // Of four ways a first step goes, all as many, one hears one and one hears three: the greater part is alike.
+    String four = "house;stair 0 1 3;stair 0 2 3;stair 0 3 3;stair 1 2 3;stair 1 3 3;stair 2 3 3;";
+    due("one, then three", Houses.told(four + "sleeper 3 1 9;sleeper 1 0 0;").listen(0), 0);
+    due("three, then one", Houses.told(four + "sleeper 1 0 0;sleeper 3 1 9;").listen(0), 0);
+    PutBack known = Houses.told("house;stair 0 1 1;stair 0 2 1;sleeper 3 1 9;sleeper 3 2 9;");
+    known.heard(0, 0, 0);
+    due("what is known of that step tells nothing new", known.listen(0), 1);
   }
 
   private static PutBack noWays() {
@@ -357,7 +393,10 @@ final class QuestionEdges extends Edges {
     none.clocks(0, 10, 0);
     fraction("no sleepers", none, 1, 1);
     PutBack five = TermEdges.fiveSleepers();
-    long[][] wants = {{0, 0, 1, 1}, {0, 5, 1, 1}, {10, 4, 0, 1}, {10, 5, 1, 1}, {5, 0, 1, 32}, {5, 4, 31, 32}, {1, 0, 59049, 100000}, {3, 2, 20923, 25000}, {9, 4, 40951, 100000}, {7, 5, 1, 1}};
+    long[][] wants = {
+      {0, 0, 1, 1}, {0, 5, 1, 1}, {10, 4, 0, 1}, {10, 5, 1, 1}, {5, 0, 1, 32}, {5, 4, 31, 32},
+      {1, 0, 59049, 100000}, {3, 2, 20923, 25000}, {9, 4, 40951, 100000}, {7, 5, 1, 1}
+    };
     for (long[] want : wants) {
       five.clocks(0, (int) want[0], (int) want[1]);
       fraction("five by " + want[0] + " of 10, " + want[1] + " or fewer", five, want[2], want[3]);
@@ -423,14 +462,14 @@ final class QuestionEdges extends Edges {
     due("awake already, no minute", up.nights(0, 0), 1);
   }
 
-  private static final int[][] DARK_STAIRS = {{0, 4, 4}, {4, 2, 3}, {2, 0, 2}, {4, 7, 5}};
+  private static final int[][] DARK_STAIRS = {{0, 4, 4}, {4, 2, 3}, {2, 0, 2}, {4, 7, 5}, {4, 3, 0}, {3, 1, 6}};
 
   private static PutBack dark() {
     PutBack x = new PutBack();
     for (int[] stair : DARK_STAIRS) {
       x.stair(stair[0], stair[1], stair[2]);
     }
-    int[][] sleepers = {{2, 4, 0}, {5, 2, 0}, {4, 7, 9}, {0, 0, 0}, {0, 7, 3}};
+    int[][] sleepers = {{2, 4, 0}, {5, 2, 0}, {4, 7, 9}, {0, 1, 4}, {0, 7, 3}};
     for (int[] s : sleepers) {
       x.sleeper(s[0], s[1], s[2]);
     }

@@ -130,17 +130,9 @@ final class TermEdges extends Edges {
     due("no further", x.waits(1), 59);
   }
 
-  private static PutBack row() {
-    PutBack x = new PutBack();
-    for (int a = 0; a < 7; a++) {
-      x.stair(a, a + 1, 9);
-    }
-    return x;
-  }
-
   private void far() {
     says("FAR from one ROOM to another: the fewest STAIRS between (none: they are not joined).");
-    PutBack x = row();
+    PutBack x = Houses.row(9);
     for (int a = 0; a < 8; a++) {
       for (int b = 0; b < 8; b++) {
         due("in a row, from " + a + " to " + b, x.far(a, b), Math.abs(a - b));
@@ -161,11 +153,11 @@ final class TermEdges extends Edges {
   private void noise() {
     says("A NOISE of n in a ROOM is heard by a SLEEPER as n less twice how FAR (0 at least; 0, if not joined).");
     for (int away = 0; away < 8; away++) {
-      PutBack x = row();
+      PutBack x = Houses.row(9);
       x.sleeper(0, 7, 3);
       due("plain, " + away + " away", Houses.leastNoise(x, 7 - away, 1), 5 + 2 * away);
       due("0 at least", x.wakes(0, 7 - away, 1), 0);
-      PutBack y = row();
+      PutBack y = Houses.row(9);
       y.sleeper(1, 0, 0);
       due("from 1 on, " + away + " away", Houses.leastNoise(y, away, 1), 1 + 2 * away);
     }

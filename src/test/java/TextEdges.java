@@ -110,6 +110,9 @@ final class TextEdges extends Edges {
 
     says("(a word that is none,");
     fault("x", 0);
+    fault("mouse;", 0);
+    fault("house;xtair 0 1 2;", 6);
+    fault("house;stait 0 1 2;", 6);
     fault("hous", 0);
     fault("hous;", 0);
     fault("houses;", 0);
@@ -160,8 +163,12 @@ final class TextEdges extends Edges {
     items("house;thing 7 0 01;", 2);
 
     says("a number not as told,");
-    String[] last = {"stair 7 0 0", "stair 0 7 0", "stair 0 1 9", "sleeper 5 0 0", "sleeper 0 7 0", "sleeper 0 0 9", "thing 7", "thing 0 2"};
-    String[] first = {"stair 8 0 0", "stair 0 8 0", "stair 0 1 10", "sleeper 6 0 0", "sleeper 0 8 0", "sleeper 0 0 10", "thing 8", "thing 0 3"};
+    String[] last = {
+      "stair 7 0 0", "stair 0 7 0", "stair 0 1 9", "sleeper 5 0 0", "sleeper 0 7 0", "sleeper 0 0 9", "thing 7", "thing 0 2"
+    };
+    String[] first = {
+      "stair 8 0 0", "stair 0 8 0", "stair 0 1 10", "sleeper 6 0 0", "sleeper 0 8 0", "sleeper 0 0 10", "thing 8", "thing 0 3"
+    };
     int[] places = {12, 14, 16, 14, 16, 18, 12, 14};
     for (int i = 0; i < last.length; i++) {
       items("house;" + last[i] + ";", 2);
@@ -207,7 +214,9 @@ final class TextEdges extends Edges {
     fault(" ".repeat(150), 150);
     fault("house", 5);
     fault("house  ", 7);
-    String[] early = {"stair", "stair 0", "stair 0 1", "stair 0 1 2", "sleeper", "sleeper 0 0 0 ", "thing", "thing 0", "thing 0 1 2 1 2"};
+    String[] early = {
+      "stair", "stair 0", "stair 0 1", "stair 0 1 2", "sleeper", "sleeper 0 0 0 ", "thing", "thing 0", "thing 0 1 2 1 2"
+    };
     for (String item : early) {
       fault("house;" + item, 6 + item.length());
       fault("house;" + item + "  ", 8 + item.length());
