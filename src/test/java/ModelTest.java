@@ -767,6 +767,8 @@ public final class ModelTest {
   }
 
   private static int wrong = 0;
+  /** Calls on the object of this run: what one answers behind its 512th is free. */
+  private static int used = 0;
   private static final int[] answered = new int[36];
   private static final int[] refused = new int[36];
 
@@ -843,6 +845,7 @@ public final class ModelTest {
   };
 
   private static boolean both(int run, PutBack x, Model model, int c, int[] n) {
+    used++;
     long got = Calls.call(x, NAMES[c], n);
     long want = call(model, c, n);
     answered[c]++;
@@ -954,19 +957,14 @@ public final class ModelTest {
     PutBack x = new PutBack();
     Model model = new Model();
     int ceiling = random.nextInt(10);
-    int calls = 0;
-    if (run % 3 == 0) {
-      if (!typeAndRead(run, x, model, random)) {
-        return;
-      }
-      calls = 153;
+    used = 0;
+    if (run % 3 == 0 && !typeAndRead(run, x, model, random)) {
+      return;
     }
-    for (; calls < CALLS; calls++) {
-      if (calls < CALLS - 160 && random.nextInt(300) == 0) {
-        if (!typeAndRead(run, x, model, random)) {
-          return;
-        }
-        calls += 153;
+    // A turn makes two calls at most, and status is asked thrice at the end.
+    while (used < CALLS - 4) {
+      if (used < CALLS - 160 && random.nextInt(300) == 0 && !typeAndRead(run, x, model, random)) {
+        return;
       }
       int c = pick(random);
       if (!both(run, x, model, c, numbers(random, c, ceiling))) {
