@@ -131,6 +131,9 @@ public final class LanguageTest {
     checkWords(Files.readString(Path.of(SOURCE)));
     checkFace();
     checkClasses();
+    for (String fault : RuleScan.faultsOf(SOURCE)) {
+      check(false, fault);
+    }
     System.out.println(wrong == 0 ? "the language is kept to" : wrong + " rules are not kept to");
     if (wrong != 0) {
       System.exit(1);
